@@ -434,12 +434,14 @@ public final class SafeControl {
         /** The events that the plants may do. */
         int eventsOfPlants(int code) {
             int had = 0;
+            int notStopped = ALL_EVENTS;
             for (int i = 0; i < count; i++) {
                 if (all[i].kind == PLANT) {
                     had |= all[i].events;
+                    notStopped &= all[i].eventsNotStopped(stateIn(code, i));
                 }
             }
-            return had & eventsNotStopped(code, plants());
+            return had & notStopped;
         }
 
         /** The events that no member stops in its state, be they had by a plant or not. */

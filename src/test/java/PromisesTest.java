@@ -274,6 +274,36 @@ public final class PromisesTest {
         Check.due("make() with an edge elsewhere after clear", 1, x::make);
         Check.due("says(1, 1) after clear", 2, () -> x.says(1, 1));
         Check.due("allowed() after clear", 0, x::allowed);
+        promise6Leftovers();
+    }
+
+    /** What comes after a clear has nothing of what was there before. */
+    private static void promise6Leftovers() {
+        SafeControl x = press();
+        x.make();
+        x.clear();
+        Check.due("event(0, false) that was declared otherwise before clear", 1, () -> x.event(0, NO));
+        Check.due("event(0, true) after it", Check.STATE, () -> x.event(0, YES));
+        x.event(2, YES);
+        add(x, 4, 0, 0b1111);
+        add(x, 2, 0, 0b11);
+        x.edge(1, 0, 0, 1);
+        Check.due("make() with an event of the second plant alone", 2, x::make);
+        x.edge(0, 1, 2, 1);
+        x.make();
+        Check.due("says(1, 2) where there was an edge before clear", 2, () -> x.says(1, 2));
+
+        SafeControl y = withEvents(2, 0);
+        add(y, 2, 0, 0b11);
+        y.edge(0, 0, 0, 1);
+        y.edge(0, 1, 1, 0);
+        Check.due("make() of a ring", 2, y::make);
+        y.clear();
+        y.event(0, YES);
+        add(y, 2, 0, 0b01);
+        y.edge(0, 0, 0, 1);
+        Check.due("make() of half the ring after clear", 1, y::make);
+        Check.due("many(1) of half the ring after clear", 1, () -> y.many(1));
     }
 
     private static void promise7Refusals() {
@@ -357,7 +387,51 @@ public final class PromisesTest {
         Check.due("make() with an event of a rule alone", 1, n::make);
         Check.due("many(0) with an event of a rule alone", 1, () -> n.many(0));
         Check.due("says(1, 0) with an event of a rule alone", 2, () -> n.says(1, 0));
+        promise7Rules();
         promise7Rounds();
+    }
+
+    private static void promise7Rules() {
+        // The rule has the lower number, and forbids event 0 from its second state on.
+        SafeControl x = withEvents(1, 0);
+        add(x, 2, 1, 0b11);
+        add(x, 3, 0, 0b111);
+        x.edge(0, 0, 0, 1);
+        line(x, 1, 3, 0);
+        Check.due("make() with a rule before the plant", 2, x::make);
+        Check.due("says(2, 0) with a rule before the plant", 1, () -> x.says(2, 0));
+
+        // It would have to forbid event 0 in the first state.
+        SafeControl f = withEvents(1, 0b1);
+        add(f, 1, 0, 1);
+        f.edge(0, 0, 0, 0);
+        add(f, 2, 1, 0b11);
+        f.edge(1, 1, 0, 1);
+        Check.due("make() where the first is lost by a rule", 0, f::make);
+        Check.due("why() where the first is lost by a rule", 0, f::why);
+
+        // Event 2 can't be forbidden: it leads from 2, found last, to 1, where the rule stops it.
+        SafeControl o = withEvents(3, 0b100);
+        add(o, 3, 0, 0b111);
+        o.edge(0, 0, 0, 1);
+        o.edge(0, 0, 1, 2);
+        o.edge(0, 1, 2, 1);
+        o.edge(0, 2, 2, 1);
+        add(o, 3, 1, 0b111);
+        o.edge(1, 0, 1, 1);
+        o.edge(1, 1, 2, 2);
+        o.edge(1, 0, 0, 2);
+        Check.due("make() where a later state must lead to a lost one", 1, o::make);
+        Check.due("many(0) where a later state must lead to a lost one", 3, () -> o.many(0));
+        Check.due("many(1) where a later state must lead to a lost one", 1, () -> o.many(1));
+
+        SafeControl i = withEvents(1, 0);
+        add(i, 2, 0, 0b11);
+        i.edge(0, 1, 0, 0);
+        Check.due("make() from 0", 1, i::make);
+        i.tell(0, 1, 0, YES);
+        Check.due("make() from 1 to 0", 2, i::make);
+        Check.due("part(2, 0) from 1 to 0", 0, () -> i.part(2, 0));
     }
 
     /** What is lost in one round makes more lost in the next, and what lies behind lost states stays good. */
@@ -565,6 +639,36 @@ public final class PromisesTest {
         Check.due("conflict(1, 2) that begins later", 1, () -> l.conflict(1, 2));
         l.edge(2, 1, 0, 1);
         Check.due("conflict(1, 2) no more", 0, () -> l.conflict(1, 2));
+        promise14Marks();
+    }
+
+    private static void promise14Marks() {
+        SafeControl one = withEvents(1, 0);
+        add(one, 1, 0, 1);
+        add(one, 1, 1, 1);
+        Check.due("conflict(1, 1) of supervisors of one state", 0, () -> one.conflict(1, 1));
+
+        // Event 0 takes each rule from one of its states to the other; they mark by turns.
+        SafeControl x = withEvents(1, 0);
+        add(x, 1, 0, 1);
+        everywhere(x, 0, 1, 0);
+        for (int rule = 1; rule <= 2; rule++) {
+            add(x, 2, 1, rule);
+            x.edge(rule, 0, 0, 1);
+            x.edge(rule, 1, 0, 0);
+        }
+        Check.due("conflict(1, 2) of rules that mark by turns", 1, () -> x.conflict(1, 2));
+        Check.due("conflict(2, 1) of rules that mark by turns", 1, () -> x.conflict(2, 1));
+        x.tell(2, 0, 1, YES);
+        Check.due("conflict(1, 2) of rules that mark together at times", 0, () -> x.conflict(1, 2));
+
+        // The supervisors leave out the lost states of the press, which is at home in 3 now.
+        SafeControl p = press();
+        p.tell(0, 0, 1, NO);
+        p.tell(0, 3, 1, YES);
+        add(p, 1, 1, 1);
+        add(p, 1, 1, 1);
+        Check.due("conflict(1, 2) where states are lost", 0, () -> p.conflict(1, 2));
     }
 
     private static void promise14Refusals() {
