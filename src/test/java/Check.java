@@ -6,6 +6,8 @@ final class Check {
 
     private static int asked = 0;
     private static int wrong = 0;
+    private static String sentence = "";
+    private static int askedBefore = -1;
 
     interface Call {
         Object answer();
@@ -39,7 +41,7 @@ final class Check {
         asked++;
         if (!want.equals(got)) {
             wrong++;
-            System.out.println(what + " answered " + got + ", due is " + want);
+            System.out.println(sentence + what + " answered " + got + ", due is " + want);
         }
     }
 
@@ -59,11 +61,26 @@ final class Check {
         due(what, "true", String.valueOf(holds));
     }
 
+    /** The document's sentence that the answers from now on are about; each must have one at least. */
+    static void sentence(String promise, String words) {
+        endSentence();
+        sentence = "[" + promise + ": " + words + "] ";
+        askedBefore = asked;
+    }
+
+    private static void endSentence() {
+        if (asked == askedBefore) {
+            wrong++;
+            System.out.println(sentence + "has no test");
+        }
+    }
+
     static int wrong() {
         return wrong;
     }
 
     static void end() {
+        endSentence();
         System.out.println(asked + " answers, " + wrong + " not as due");
         if (asked == 0 || wrong != 0) {
             System.exit(1);
