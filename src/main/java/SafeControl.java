@@ -273,10 +273,6 @@ public final class SafeControl {
             }
         }
 
-        boolean has(int event) {
-            return hasBit(events, event);
-        }
-
         boolean hasEdge(int from, int event) {
             return hasBit(eventsFrom[from], event);
         }
@@ -459,7 +455,7 @@ public final class SafeControl {
         int step(int code, int event, int members) {
             int next = code;
             for (int i = 0; i < count; i++) {
-                if (hasBit(members, i) && all[i].has(event)) {
+                if (hasBit(members, i) && hasBit(all[i].events, event)) {
                     next = withState(next, i, all[i].follow(stateIn(code, i), event));
                 }
             }
